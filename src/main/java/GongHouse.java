@@ -110,7 +110,7 @@ public final class GongHouse {
     private final Tape tape = new Tape();
     private final House house = new House();
     private final House houseDraft = new House();
-    private final LawReader lawReader = new LawReader();
+    private final LawReader lawReader = new LawReader(tape);
     private final Law[] laws = new Law[MOST_TEXTS];
     private final Week[] weeks = new Week[MOST_TEXTS];
     private final State now = new State();
@@ -548,7 +548,7 @@ public final class GongHouse {
             case SORT_HOUSE:
                 return houseDraft.readFrom(tape);
             case SORT_LAW:
-                return lawReader.readFrom(tape);
+                return lawReader.readLaw();
             default:
                 return weekDraft.readFrom(tape);
         }
@@ -872,16 +872,19 @@ public final class GongHouse {
     private static final class LawReader {
         private static final int DIGITS = 4;
         private static final int MOST_NUMBER = 9999;
+        private final Tape tape;
         private final int[] code = new int[MOST_BYTES];
         private int size = 0;
-        private Tape tape = null;
+
+        private LawReader(Tape tape) {
+            this.tape = tape;
+        }
 
         private int[] written() {
             return Arrays.copyOf(code, size);
         }
 
-        private boolean readFrom(Tape from) {
-            tape = from;
+        private boolean readLaw() {
             size = 0;
             for (int i = 0; i <= MOST_BYTES; i++) {
                 if (!readClause()) {

@@ -185,24 +185,42 @@ public final class ActsTest {
         x.day();
         CHECK.due("liked", Check.guest(x, 0, 4), 9);
         CHECK.due("back", x.sign(0, 1), 2);
+        CHECK.due("kind 0", x.sign(0, 0), 1);
+        GongHouse y = Check.house("d;gl1;gl2;gl3");
+        CHECK.due("what was of 1", y.sign(1, 1), 2);
+        CHECK.due("what was of 2", y.sign(2, 0), 3);
+        CHECK.due("as it is for 1", y.sign(1, 1), -1);
+        CHECK.due("not for 0", y.sign(0, 3), 1);
+        Check.rule(y, "y:[0-9]");
+        Check.days(y, 2);
+        CHECK.due("who left makes signs, too", y.sign(0, 2), 3);
     }
 
     private static void years() {
-        GongHouse x = Check.house("d;d;d;gs20;gs20a2");
-        CHECK.due("n", x.years(0, 1), -1);
-        CHECK.due("n", x.years(31, 1), -1);
-        CHECK.due("n", x.years(-5, 1), -1);
-        x.fever(9);
-        CHECK.due("years", x.years(30, 77), 30);
+        GongHouse bounds = Check.house("d;g");
+        CHECK.due("no house", new GongHouse().years(1, 1), -1);
+        CHECK.due("n", bounds.years(0, 1), -1);
+        CHECK.due("n", bounds.years(31, 1), -1);
+        CHECK.due("n", bounds.years(-5, 1), -1);
+        CHECK.due("one", bounds.years(1, 1), 1);
+        for (int i = 0; i < 20; i++) {
+            yearsByHand(i % 10, 77 * i * i * i - 99);
+        }
+        manyYears();
+    }
+
+    private static void yearsByHand(int fever, long from) {
+        GongHouse x = Check.house("sl0;d;d;d;gs20;gs20a2");
+        x.fever(fever);
+        CHECK.due("years", x.years(30, from), 30);
         CHECK.due("acts", x.count(12), 30);
         CHECK.due("log", x.count(11), 30);
-        CHECK.due("ill", x.rule(0), 3);
         // The same by hand.
-        GongHouse y = Check.house("d;d;d;gs20;gs20a2");
-        long seed = 77;
+        GongHouse y = Check.house("sl0;d;d;d;gs20;gs20a2");
+        long seed = from;
         for (int i = 0; i < 30; i++) {
             seed = next(seed);
-            if (draw(seed, 10) < 9) {
+            if (draw(seed, 10) < fever) {
                 y.ill();
             }
             seed = next(seed);
@@ -229,9 +247,12 @@ public final class ActsTest {
         for (int i = 29; i > 0; i--) {
             x.undo();
         }
-        CHECK.due("hand as told", x.rule(0), 1);
+        CHECK.due("hand as told", x.rule(0), 0);
         CHECK.due("stay as told", Check.guest(x, 0, 1), 20);
         CHECK.due("nothing chosen", x.choose(0), -1);
+    }
+
+    private static void manyYears() {
         GongHouse z = Check.house("d;g");
         z.fever(0);
         for (int i = 0; i < 33; i++) {

@@ -35,6 +35,9 @@ public final class AsksTest {
         CHECK.due("joy up to there", x.run(1, 1), -4);
         CHECK.due("made up", x.run(2, 1), 14);
         CHECK.due("the tenth is the 97th day", x.run(3, 0), 11);
+        GongHouse longer = Check.house("d;gs2;g");
+        Check.week(longer, "x01;d;d;d;x03;d;d;d");
+        CHECK.due("-2 and six, five times; the other alike", longer.run(0, 1), 2 * (-2 + 6 * 5));
         CHECK.due("nothing changed", x.count(6) + x.count(12) + x.count(11) + x.count(7), 0);
         CHECK.due("no such week", x.run(4, 0), HIDDEN);
         CHECK.due("no such week", x.run(-1, 0), HIDDEN);
@@ -141,6 +144,8 @@ public final class AsksTest {
         CHECK.due("madeUp(21)", x.madeUp(21), -1);
         CHECK.due("madeUp(-1)", x.madeUp(-1), -1);
         CHECK.due("hand as it is", x.rule(0), 3);
+        CHECK.due("20 can be", Check.house("sl0;dw20;g").madeUp(20), 0);
+        CHECK.due("no house", new GongHouse().madeUp(0), -1);
         GongHouse first = Check.house("sl3;d;g");
         CHECK.due("nothing is served but by today's", first.madeUp(0), 3);
     }
@@ -175,6 +180,12 @@ public final class AsksTest {
         CHECK.due("v", x.probe(1, 0, 21), -1);
         CHECK.due("v", x.probe(1, 0, -10), -1);
         CHECK.due("no such guest", x.probe(2, 0, 0), -1);
+        CHECK.due("all bounds are within", x.probe(1, 20, 20), 0);
+        CHECK.due("all bounds are within", x.probe(1, 0, -9), 0);
+        GongHouse y = Check.house("d;g");
+        CHECK.due("all bounds are within", y.seen(0, 0, 20, 20, false), 1);
+        CHECK.due("all bounds are within", y.seen(0, 0, 0, -9, true), 2);
+        CHECK.due("all kinds still", y.likes(0), 15);
         for (int i = 5; i <= 10; i++) {
             CHECK.due("seen", x.seen(1, 0, 20, -9, true), i);
         }
@@ -230,6 +241,11 @@ public final class AsksTest {
         x.day();
         CHECK.due("how much more joy", x.game(0, 1, 0, 0, 0), 12 + 4 - 2);
         CHECK.due("nobody stays longer", Check.guest(x, 0, 1), 3);
+        CHECK.due("bounds", x.game(0, 1, 3, 3, 0), 12 + 4 - 2 + 3 * 7);
+        GongHouse y = Check.house("d;gs20p1;gs20p0");
+        Check.rule(y, "y:1");
+        CHECK.due("eight days", y.game(0, 1, 0, 0, 0), 8 + 14 - 8);
+        CHECK.due("eight days", y.game(0, 1, 0, 0, 1), 8 + 14);
         CHECK.due("alike", x.game(0, 0, 0, 0, 0), HIDDEN);
         CHECK.due("no such", x.game(0, 3, 0, 0, 0), HIDDEN);
         CHECK.due("no such", x.game(-1, 1, 0, 0, 0), HIDDEN);
@@ -311,6 +327,16 @@ public final class AsksTest {
         CHECK.due("happiest", x.all(0), 1);
         Check.days(x, 9);
         CHECK.due("liked by nobody", x.all(5), 0);
+        GongHouse third = Check.house("d;gp1;gp2;gp3");
+        Check.rule(third, "y:p");
+        third.day();
+        CHECK.due("the third is happiest", third.all(0), 2);
+        third.stay(2, 1);
+        CHECK.due("and longest", third.all(1), 2);
+        CHECK.due("and richest", third.all(2), 2);
+        CHECK.due("the last is hottest", Check.house("dw3;dw4;dw5;g").all(3), 2);
+        CHECK.due("and cheapest", Check.house("dc3;dc2;dc1;g").all(4), 2);
+        CHECK.due("the first is cheapest", Check.house("dc1;dc2;dc1;g").all(4), 0);
         GongHouse gone = Check.house("dk2;dk1;gs1l2;gl1");
         CHECK.due("of several the lowest", gone.all(5), 0);
         gone.day();

@@ -26,6 +26,9 @@ public final class HouseTest {
             CHECK.due("guest 0 " + what, Check.guest(x, 0, what), guests[0][what]);
             CHECK.due("guest 1 " + what, Check.guest(x, 1, what), guests[1][what]);
         }
+        x.sign(1, 3);
+        CHECK.due("guest 1 likes", Check.guest(x, 1, 2), 3);
+        CHECK.due("guest 0 likes", Check.guest(x, 0, 2), 2);
         CHECK.due("rule 3", x.rule(3), -1);
         CHECK.due("rule -1", x.rule(-1), -1);
         CHECK.due("dish 2", x.dish(2, 0), -1);

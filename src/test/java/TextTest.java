@@ -47,8 +47,14 @@ public final class TextTest {
         CHECK.due("two are too many", x.feed(1, 1, 0, 0, 0), -1);
         CHECK.due("nothing came", x.count(4), 239);
         CHECK.due("one fits", x.feed(0, 0, 1, 0, 0), 240);
+        x.end(239);
+        for (int k = 0; k < 5; k++) {
+            CHECK.due("two in number " + k, x.feed(k == 0 ? 257 : 0, k == 1 ? 257 : 0, k == 2 ? 257 : 0,
+                k == 3 ? 257 : 0, k == 4 ? 257 : 0), -1);
+        }
+        CHECK.due("all five count", x.feed(1, 1, 1, 1, 1), -1);
         CHECK.due("fault does not empty", x.fault(0), 1);
-        CHECK.due("tape is there", x.count(4), 240);
+        CHECK.due("tape is there", x.count(4), 239);
     }
 
     private static void fault(int sort, String text, int want) {
@@ -67,6 +73,16 @@ public final class TextTest {
         fault(0, " s l 3 h 9 c 99 ; d w 20 c 9 k 3 ; g a 20 s 20 l 3 p 9 ", -1);
         fault(0, "sc99h9l3;dk3w20c9;gp9l3s20a20", -1);
         fault(0, "sl00;dw00;gs01", -1);
+        fault(0, "sl0h0c0;dw0c0k0;ga0s1l0p0", -1);
+        fault(0, "sh10;d;g", 3);
+        fault(0, "sc100;d;g", 4);
+        fault(0, "dw21;g", 3);
+        fault(0, "dc10;g", 3);
+        fault(0, "dk4;g", 2);
+        fault(0, "d;ga21", 5);
+        fault(0, "d;gs21", 5);
+        fault(0, "d;gl4", 4);
+        fault(0, "d;gp10", 5);
         fault(0, "d ", 2);
         fault(0, "s;d;", 4);
         fault(0, "dw", 2);
