@@ -824,16 +824,21 @@ public final class GongHouse {
             return false;
         }
 
+        /** Looks ahead of all else: blanks are passed over even where no CLAUSE may come any more. */
         private boolean readClause(Tape tape) {
-            if (!ruled && tape.take('s')) {
+            int letter = tape.peek();
+            if (letter == 's' && !ruled) {
+                tape.eye++;
                 ruled = true;
                 return readItems(tape, RULE_LETTERS, RULE_BOUNDS, rules, 0);
             }
-            if (dishCount < MOST_DISHES && tape.take('d')) {
+            if (letter == 'd' && dishCount < MOST_DISHES) {
+                tape.eye++;
                 dishCount++;
                 return readItems(tape, DISH_LETTERS, DISH_BOUNDS, dishes, (dishCount - 1) * DISH_ITEMS);
             }
-            if (guestCount < MOST_GUESTS && tape.take('g')) {
+            if (letter == 'g' && guestCount < MOST_GUESTS) {
+                tape.eye++;
                 guestCount++;
                 return readItems(tape, GUEST_LETTERS, GUEST_BOUNDS, guests, (guestCount - 1) * GUEST_ITEMS);
             }

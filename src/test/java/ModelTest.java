@@ -44,7 +44,8 @@ public final class ModelTest {
         int whole = 0;
         for (int i = 0; i < texts; i++) {
             int sort = i % 3;
-            String text = test.spoilt(test.text(sort), sort);
+            String text = test.cut(i % 2 == 0 ? test.text(sort) : test.textAtBounds(sort));
+            text = test.spoilt(text, sort);
             Check.tape(test.house, text);
             int want = sort == 0 ? Model.houseFault(text) : sort == 1 ? Model.lawFault(text) : Model.weekFault(text);
             int got = test.house.fault(sort);
@@ -159,8 +160,46 @@ public final class ModelTest {
     // ---- texts ----
 
     private String text(int sort) {
-        String text = sort == 0 ? houseText() : sort == 1 ? lawText() : weekText();
+        return cut(sort == 0 ? houseText() : sort == 1 ? lawText() : weekText(1 + random.nextInt(12)));
+    }
+
+    private String cut(String text) {
         return text.length() > 240 ? text.substring(0, 240) : text;
+    }
+
+    /** A text that has about as much of something as there may be, or a little more. */
+    private String textAtBounds(int sort) {
+        return sort == 0 ? fullHouseText() : sort == 1 ? deepLawText() : weekText(14 + random.nextInt(5));
+    }
+
+    /** Nearly all clauses that a house may have, then some more of any sort, as short as can be. */
+    private String fullHouseText() {
+        List<String> clauses = new ArrayList<>(Arrays.asList("s;d;d;d;d;d;g;g;g;g;g;g".split(";")));
+        java.util.Collections.shuffle(clauses, random);
+        for (int i = random.nextInt(3); i > 0; i--) {
+            clauses.remove(random.nextInt(clauses.size()));
+        }
+        for (int i = random.nextInt(4); i > 0; i--) {
+            clauses.add("" + "sdg;".charAt(random.nextInt(4)));
+        }
+        return blanks(String.join(";", clauses));
+    }
+
+    /** Five to eight of ( [ ! within one another, all of them closed again. */
+    private String deepLawText() {
+        StringBuilder text = new StringBuilder("y:");
+        int left = 5 + random.nextInt(4);
+        String closing = "";
+        for (int i = random.nextInt(left + 1); i > 0; i--) {
+            boolean not = random.nextBoolean();
+            text.append(not ? "!" : "(");
+            closing = (not ? "" : ")") + closing;
+            left--;
+        }
+        boolean behind = random.nextBoolean();
+        text.append(behind ? "w>" : "").append("[[[[[[[[", 0, left).append("l]]]]]]]]", 0, 1 + left);
+        text.append(behind ? "" : "<f").append(closing).append("?1");
+        return blanks(text.toString());
     }
 
     private String houseText() {
@@ -183,9 +222,9 @@ public final class ModelTest {
         return random.nextInt(3) == 0 ? "" : letter + (least + random.nextInt(most - least + 1));
     }
 
-    private String weekText() {
+    private String weekText(int steps) {
         StringBuilder text = new StringBuilder();
-        for (int i = random.nextInt(12); i >= 0; i--) {
+        for (int i = steps - 1; i >= 0; i--) {
             int what = random.nextInt(8);
             text.append(what > 4 ? "d" : what == 1 ? "c" + random.nextInt(4) : what == 4
                 ? "x" + random.nextInt(5) + random.nextInt(10) : "" + "dciux".charAt(what));

@@ -112,6 +112,37 @@ public final class TextTest {
         fault(0, "s;d;d;d;d;d;g;g;g;g;g;g;g", 24);
         fault(0, "s;d;d;d;d;d;g;g;g;g;g;g;", 24);
         fault(0, "g;d;d;d;d;d;d", 12);
+        faultsBehindBlanks();
+    }
+
+    /** A blank is never wrong itself, even where no clause, step or sign of its sort can come any more. */
+    private static void faultsBehindBlanks() {
+        String full = "s;d;d;d;d;d;g;g;g;g;g;g";
+        fault(0, full + "  ", -1);
+        fault(0, full + " ;", 25);
+        fault(0, full + "; ", 25);
+        fault(0, full + "; d", 25);
+        fault(0, full + ";  g", 26);
+        fault(0, full + "; s", 25);
+        fault(0, full + "; ;", 25);
+        fault(0, full + "; z", 25);
+        fault(0, full + " ; " + (char) 160, 26);
+        fault(0, full + " z", 24);
+        fault(0, "s;d;g; s", 7);
+        fault(0, "g;d;d;d;d;d; d", 13);
+        fault(0, "d;g;g;g;g;g;g; g", 15);
+        fault(0, "sl1 l2;d;g", 4);
+        fault(0, "sl 4 ;d;g", 3);
+        fault(0, "d w  ", 5);
+        fault(1, "y:[[[[[[ [1", 9);
+        fault(1, "y:((((((  !w=1", 10);
+        fault(1, "y:!!!!!! w= [1]?1", 12);
+        fault(1, "y:(w=1) ;", 8);
+        fault(1, "y:1+ ", 5);
+        fault(2, "d;d;d;d;d;d;d;d;d;d;d;d;d;d;d;d ", -1);
+        fault(2, "d;d;d;d;d;d;d;d;d;d;d;d;d;d;d;d ; d", 32);
+        fault(2, "x 1 ;", 4);
+        fault(2, "c 1 2", 4);
     }
 
     private static void faultsOfLaws() {
