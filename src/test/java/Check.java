@@ -1,6 +1,8 @@
 /** Counts the answers that are not as due, and tells them; makes houses of texts. */
 final class Check {
+    private static final String SIXTEEN_DAYS = "d;d;d;d;d;d;d;d;d;d;d;d;d;d;d;d";
     private final String title;
+    private String sentence = "";
     private int asked = 0;
     private int wrong = 0;
 
@@ -8,11 +10,16 @@ final class Check {
         this.title = title;
     }
 
+    /** From here on answers are due by this sentence of the document. */
+    void of(String sentence) {
+        this.sentence = " [" + sentence + "]";
+    }
+
     void due(String call, long got, long want) {
         asked++;
         if (got != want) {
             wrong++;
-            System.out.println(title + ": " + call + " answered " + got + ", due is " + want);
+            System.out.println(title + sentence + ": " + call + " answered " + got + ", due is " + want);
         }
     }
 
@@ -77,6 +84,15 @@ final class Check {
         for (int i = 0; i < n; i++) {
             x.day();
         }
+    }
+
+    /** So many days at once, by a week of sixteen: an object has 512 calls alone. */
+    static void manyDays(GongHouse x, int n) {
+        int week = week(x, SIXTEEN_DAYS);
+        for (int i = 0; i < n / 16; i++) {
+            x.perform(week);
+        }
+        days(x, n % 16);
     }
 
     /** The answer of guest, or -1000 if it throws what the document names. */
