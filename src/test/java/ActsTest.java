@@ -35,7 +35,7 @@ public final class ActsTest {
         CHECK.due("dish 1 is cold: 0, not liked", Check.guest(x, 1, 4), 3);
         CHECK.due("day 4: three", x.day(), 3);
         GongHouse y = Check.house("d;gs20");
-        Check.days(y, 998);
+        Check.manyDays(y, 998);
         CHECK.due("998", y.count(6), 998);
         CHECK.due("a day", y.day(), 0);
         CHECK.due("999", y.count(6), 999);

@@ -149,6 +149,15 @@ public final class BoundsOfActsTest {
         CHECK.due("99", x.stay(0, 1), 99);
         CHECK.due("100", x.stay(0, 1), -1);
         CHECK.due("99 still", Check.guest(x, 0, 1), 99);
+        CHECK.of("P15: NONE: above 99 (of the sixth, too)");
+        GongHouse six = Check.house("d;g;g;g;g;g;gs20");
+        for (int i = 0; i < 8; i++) {
+            six.stay(5, 9);
+        }
+        CHECK.due("100", six.stay(5, 8), -1);
+        CHECK.due("99", six.stay(5, 7), 99);
+        CHECK.due("100", six.stay(5, 1), -1);
+        CHECK.due("not so the fifth", six.stay(4, 9), 16);
     }
 
     private static void signs() {

@@ -27,6 +27,7 @@ public final class BoundsOfAsksTest {
         leaves();
         leavesInSixty();
         games();
+        gamesFromAsItIs();
         gamesOfEightDays();
         gamesRefused();
         rests();
@@ -75,6 +76,12 @@ public final class BoundsOfAsksTest {
         Check.week(y, "i;i;d");
         CHECK.due("two DAYS, two GUESTS", y.run(0, 1), 24);
         CHECK.due("less by nothing", y.run(1, 1), -4);
+        CHECK.of("==== 3, P21: RUN: the GUEST, the first, STAYS so many DAYS longer, the second");
+        GongHouse longer = Check.house("sl0;d;gs1;gs1");
+        Check.week(longer, "x02;d;d;d;d");
+        Check.week(longer, "x11;d;d;d;d");
+        CHECK.due("three DAYS and one, 7 each", longer.run(0, 1), 28);
+        CHECK.due("one DAY and two, 7 each", longer.run(1, 1), 21);
         CHECK.of("P21: HIDDEN: no such ones, no HOUSE");
         for (int week : new int[] {-1, 2, 4, LOWEST, HIGHEST}) {
             CHECK.due("run(" + week + ", 0)", y.run(week, 0), HIDDEN);
@@ -284,6 +291,13 @@ public final class BoundsOfAsksTest {
         GongHouse chosen = Check.house("sl1;dw3;dw20;g");
         chosen.choose(1);
         CHECK.due("the DISH of today", chosen.madeUp(20), 1);
+        CHECK.of("==== 3: MADEUP: DAYS of the HAND made UP (never one more)");
+        GongHouse more = Check.house("sl1h3;dw0;dw20;dw0;dw13;g");
+        Check.days(more, 3);
+        // HAND 2 would be 20 - 6, HAND 1 is 0, HAND 0 is 13.
+        CHECK.due("13", more.madeUp(13), 1);
+        CHECK.due("14", more.madeUp(14), -1);
+        CHECK.due("0", more.madeUp(0), 0);
         CHECK.of("P27: NONE: no HOUSE, out of bounds");
         for (int v : new int[] {-1, 21, LOWEST, HIGHEST}) {
             CHECK.due("madeUp(" + v + ")", x.madeUp(v), -1);
@@ -475,6 +489,22 @@ public final class BoundsOfAsksTest {
         CHECK.due("gone", full.game(0, 1, 0, 0, 1), 0);
     }
 
+    private static void gamesFromAsItIs() {
+        CHECK.of("==== 3: GAME: how much more JOY it has (than as it is), whichever GUEST is the first");
+        GongHouse x = Check.house("sl0;d;gs20p1;gs20p3;gs20p5");
+        Check.rule(x, "y:p");
+        Check.days(x, 2);
+        int[] more = {8 + 16 - 8, 24 + 16 - 24, 40 + 16 - 40};
+        for (int one = 0; one < 3; one++) {
+            for (int other = 0; other < 3; other++) {
+                if (one != other) {
+                    CHECK.due("first of " + one + " and " + other, x.game(one, other, 0, 0, 0), more[one]);
+                    CHECK.due("second of " + one + " and " + other, x.game(one, other, 0, 0, 1), more[other]);
+                }
+            }
+        }
+    }
+
     private static void gamesOfEightDays() {
         CHECK.of("==== 3: GAME: behind 8 DAYS, less what it PAYS in them");
         GongHouse x = Check.house("sl0;d;ga7p1;ga8p1");
@@ -649,6 +679,9 @@ public final class BoundsOfAsksTest {
         Check.rule(x, "y:p=3?0;y:p=6?0;y:0-1");
         x.day();
         CHECK.due("0 above -1, the lower", x.all(0), 2);
+        GongHouse few = Check.house("d;g;g");
+        few.day();
+        CHECK.due("both -2, and no third", few.all(0), 0);
         CHECK.of("==== 3, P35: LONGEST: who STAYS longest (of several the lowest)");
         GongHouse y = Check.house("d;gs1;gs20;gs20;gs19;g;g");
         CHECK.due("the lower of two", y.all(1), 1);
@@ -679,6 +712,13 @@ public final class BoundsOfAsksTest {
         CHECK.due("two on DAY 1, the lower DISH", x.all(5), 2);
         x.sign(3, 1);
         CHECK.due("two by a SIGN", x.all(5), 1);
+        CHECK.of("==== 3, P35: LIKED: by most of all six, by the fewest there can be");
+        CHECK.due("the fourth, by four of six", Check.house("dk3;dk2;dk1;dk0;g;g;g;g;gl3;gl3").all(5), 3);
+        CHECK.due("the first, as the second by one", Check.house("dk1;dk0;gl3;gl1;gl0;gl3;gl3;gl3").all(5), 0);
+        CHECK.due("the first of two", Check.house("dk3;dk2;gl3;gl3;gl3;gl2;gl2;gl2").all(5), 0);
+        CHECK.due("the first by one more", Check.house("dk3;dk2;gl3;gl3;gl3;gl2;gl2").all(5), 0);
+        CHECK.due("the second by one more", Check.house("dk3;dk2;gl3;gl3;gl2;gl2;gl2").all(5), 1);
+        CHECK.due("the last, by one", Check.house("d;d;d;d;dk1;gl1").all(5), 4);
     }
 
     private static void waste() {
@@ -714,6 +754,10 @@ public final class BoundsOfAsksTest {
         Check.rule(none, "y:0-9");
         Check.days(none, 3);
         CHECK.due("all LEFT", none.all(7), -1);
+        GongHouse six = Check.house("d;gl3;gl3;gl3;gl3;gl3;gl3");
+        Check.rule(six, "y:0-9");
+        Check.days(six, 2);
+        CHECK.due("all six LEFT", six.all(7), -1);
     }
 
     private static void takesAndCooks() {

@@ -463,6 +463,14 @@ public final class BoundsOfDaysTest {
         CHECK.due("it was his last as told at first", t.fed(0), 1);
         CHECK.due("two PORTIONS of DAY 0", t.serves(0, 2), 2);
         CHECK.due("one is thrown away", t.all(6), 1);
+        CHECK.of("==== 2 (3): who LEFT has nothing on what would have been his last DAY");
+        GongHouse left = Check.house("sl2;d;gs5;gs4p1;gs2;gs2");
+        Check.rule(left, "y:p=1?0-4");
+        Check.days(left, 3);
+        CHECK.due("he LEFT on DAY 2", left.count(8), 2);
+        CHECK.due("four PORTIONS of DAY 1", left.serves(0, 2), 4);
+        CHECK.due("one", left.fed(0), 1);
+        CHECK.due("three are thrown away", left.all(6), 3);
         CHECK.of("==== 2 (3): nobody is THERE: all is thrown away");
         GongHouse gone = Check.house("d;gs1;gs1;gs1;gs1;gs1;gs1");
         gone.day();
@@ -606,6 +614,12 @@ public final class BoundsOfDaysTest {
         CHECK.due("and no more", y.rule(2), 18);
         CHECK.due("JOY as it was", joy(y, 0), -10);
         CHECK.due("who LEFT (bits)", y.count(8), 1);
+        CHECK.of("P40: 7 JOY of all (six GUESTS, 0 at first)");
+        GongHouse six = Check.house("d;gl3;gl3;gl3;gl3;gl3;gl3");
+        CHECK.due("0 at first", six.count(7), 0);
+        six.day();
+        CHECK.due("six times -2", six.count(7), -12);
+        CHECK.due("in the LOG, too", six.log(0, 2), -12);
         CHECK.of("P40: 8 who LEFT (bits)");
         GongHouse all = Check.house("d;g;g;g;g;g;gp1");
         Check.rule(all, "y:p=3?0-9");

@@ -211,8 +211,16 @@ public final class BoundsOfTextsTest {
         }
         fault(0, "g;g;g;g;g;g;g;d", 12);
         fault(0, "d;g;g;g;g;g;g;g", 14);
+        CHECK.of("Terms: all twelve CLAUSES; FAULT: a second s, a sixth d, a seventh g at it, behind blanks, too");
+        String twelve = "d;s;d;d;d;d;g;g;g;g;g;g";
+        fault(0, twelve, -1);
+        fault(0, twelve + "  ", -1);
+        for (String more : new String[] {"s", "d", "g"}) {
+            fault(0, twelve + ";" + more, 24);
+            fault(0, twelve + " ;  " + more, 27);
+        }
+        fault(0, twelve + "d", 23);
         CHECK.of("Terms: CLAUSES with ; between");
-        fault(0, "d;s;d;d;d;d;g;g;g;g;g;g", -1);
         fault(0, "dg", 1);
         fault(0, "d g", 2);
         fault(0, ";d;g", 0);
@@ -523,12 +531,23 @@ public final class BoundsOfTextsTest {
         fault(1, "y:1=(1)?1", 4);
         fault(1, "y:1=!1?1", 4);
         fault(1, "y:1&1=1?1", 3);
+        fault(1, "y:1=?1", 4);
+        fault(1, "y:1=&1=1?1", 4);
+        fault(1, "y:(1=)?1", 5);
+        fault(1, "y:!1=)?1", 5);
         fault(1, "y:1=1&?1", 6);
+        fault(1, "y:1=1|?1", 6);
+        fault(1, "y:(1=1&)?1", 7);
+        fault(1, "y:(1=1|)?1", 7);
         fault(1, "y:1=1&|1=1?1", 6);
         fault(1, "y:1=1&&1=1?1", 6);
         CHECK.of("Terms: ATOM: a number, a letter, [ SUM ]");
         fault(1, "y:[]", 3);
         fault(1, "y:[1)", 4);
+        fault(1, "y:[1+]", 5);
+        fault(1, "y:[1*]", 5);
+        fault(1, "y:1+=1?1", 4);
+        fault(1, "y:1*=1?1", 4);
         fault(1, "y:[1=1]", 4);
         fault(1, "y:-1", 2);
         fault(1, "y:1--1", 4);
@@ -643,6 +662,16 @@ public final class BoundsOfTextsTest {
             worth("y:!" + a + "&" + b + "|" + c + "?8;y:6", !ta && tb || tc ? 8 : 6);
             worth("y:!(" + a + "&!" + b + ")|" + c + "?8;y:6", !(ta && !tb) || tc ? 8 : 6);
         }
+        CHECK.of("Terms: ! and & and | of each of = < >");
+        for (String holding : new String[] {"2=2", "1<2", "2>1"}) {
+            worth("y:!" + holding + "?8;y:6", 6);
+            worth("y:!!" + holding + "?8;y:6", 8);
+            for (String other : new String[] {"3=3", "3<4", "4>3"}) {
+                worth("y:" + holding + "&" + other + "?8;y:6", 8);
+                worth("y:!" + holding + "|" + other + "?8;y:6", 8);
+                worth("y:" + holding + "&!" + other + "?8;y:6", 6);
+            }
+        }
         CHECK.of("Terms: TERMS with + or - between; ATOMS with * or / between");
         worth("y:9-4-3", 2);
         worth("y:9-[4-3]", 8);
@@ -652,6 +681,15 @@ public final class BoundsOfTextsTest {
         worth("y:16/[4/2]", 8);
         worth("y:7/2*2", 6);
         worth("y:w-p*2+l+f+n+d", 15 - 8 + 1 + 1);
+        CHECK.of("Terms: At most six of ( [ ! within one another: what the deepest are worth");
+        worth("y:1+1*[1+1*[1+1*[1+1*[1+1*[1+1*[1+1*1]]]]]]", 8);
+        worth("y:9-[9-[9-[9-[9-[9-[9-4]]]]]]", 5);
+        worth("y:1=2|1=1&(1=2|1=1&(1=2|1=1&(1=2|1=1&(1=2|1=1&(1=2|1=1&(1=2|1=1&2+1*3=9-2*2))))))?8;y:6", 8);
+        worth("y:1=2|1=1&(1=2|1=1&(1=2|1=1&(1=2|1=1&(1=2|1=1&(1=2|1=1&(1=2|1=1&2+1*3=9-2*3))))))?8;y:6", 6);
+        worth("y:!!!!!!w=15?8;y:6", 8);
+        worth("y:!!!!!w=15?8;y:6", 6);
+        worth("y:!(!(!(w=15)))?8;y:6", 6);
+        worth("y:1+1*1=9-1*[7+1*[2-1*[2-1*[2-1*[2-1*[2-1]]]]]]?8;y:6", 6);
     }
 
     // ---- promises 4, 5 and 20: WEEKS ----
@@ -821,6 +859,21 @@ public final class BoundsOfTextsTest {
         CHECK.due("COINS", x.rule(2), 20);
         CHECK.due("a GUEST of the other one", Check.guest(x, 2, 0), -1000);
         CHECK.due("he may LIKE all", x.likes(0), 15);
+        CHECK.of("P5: DISHES and GUESTS of another one are gone");
+        GongHouse fewer = Check.house("dk0;dk1w20c0;dk2w20c0;gp9s20;gp9s20l1;gp9s20");
+        Check.tape(fewer, "dk3w5c9;gl1p0s3");
+        CHECK.due("one GUEST", fewer.text(0), 1);
+        for (int what = 0; what < 6; what++) {
+            CHECK.due("the first of all(" + what + ")", fewer.all(what), 0);
+        }
+        CHECK.due("KINDS", fewer.kinds(0) + fewer.kinds(1) + fewer.kinds(2), 0);
+        CHECK.due("LAST", fewer.all(7), 2);
+        CHECK.due("TAKES", fewer.all(8), 0);
+        CHECK.due("a row of the one DISH", fewer.best(3, 0), 0);
+        CHECK.due("SEEN", fewer.seen(0, 0, 9, 6, false), 1);
+        CHECK.due("0, 1, 2 are left", fewer.likes(0), 7);
+        CHECK.due("one DISH to TRY", fewer.probe(0, 9, 6), 0);
+        CHECK.due("a second", fewer.choose(1), -2);
         CHECK.of("P5: gone but LAWS, which holds, WEEKS, FEVER");
         CHECK.due("the LAW that holds gives -9", x.leaves(0), 2);
         CHECK.due("the other LAW", x.law(1), true);

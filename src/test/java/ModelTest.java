@@ -10,6 +10,7 @@ import java.util.Random;
 public final class ModelTest {
     private static final int RUNS = 400;
     private static final int TEXTS = 60000;
+    private static final int MOST_CALLS = 512;
     private static final String[] SIGNS = {
         "sdgwckhalsp;0123456789 ", "y:?!&|()[]=<>+-*/wlfnpd0123456789; ", "dciux;0123456789 "
     };
@@ -18,6 +19,7 @@ public final class ModelTest {
     private final List<String> told = new ArrayList<>();
     private final GongHouse house = new GongHouse();
     private final Model model = new Model();
+    private int calls = 0;
 
     private ModelTest(long seed) {
         random = new Random(seed);
@@ -46,9 +48,10 @@ public final class ModelTest {
             int sort = i % 3;
             String text = test.cut(i % 2 == 0 ? test.text(sort) : test.textAtBounds(sort));
             text = test.spoilt(text, sort);
-            Check.tape(test.house, text);
+            GongHouse x = new GongHouse();
+            Check.tape(x, text);
             int want = sort == 0 ? Model.houseFault(text) : sort == 1 ? Model.lawFault(text) : Model.weekFault(text);
-            int got = test.house.fault(sort);
+            int got = x.fault(sort);
             whole += want == -1 ? 1 : 0;
             if (got != want) {
                 System.out.println("fault(" + sort + ") of '" + text + "' answered " + got + ", due is " + want);
@@ -59,7 +62,7 @@ public final class ModelTest {
     }
 
     private void run(List<Method> methods) throws Exception {
-        for (int calls = 0; calls < 512; calls++) {
+        while (calls < MOST_CALLS) {
             int sort = calls == 0 ? 0 : random.nextInt(40);
             if (sort == 0 && calls > 0 && random.nextInt(4) != 0) {
                 sort = 3;
@@ -75,7 +78,6 @@ public final class ModelTest {
                 if (sort == 1) {
                     both("law", random.nextInt(5) - 1);
                 }
-                calls += 12;
                 continue;
             }
             Method m = methods.get(random.nextInt(methods.size()));
@@ -106,6 +108,10 @@ public final class ModelTest {
     }
 
     private void both(Method m, Object[] args) throws Exception {
+        if (calls == MOST_CALLS) {
+            return;
+        }
+        calls++;
         Object got = answer(m, house, args);
         Object want = answer(Model.class.getMethod(m.getName(), m.getParameterTypes()), model, args);
         told.add(m.getName() + Arrays.toString(args) + " = " + got);
