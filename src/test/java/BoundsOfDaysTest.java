@@ -257,6 +257,16 @@ public final class BoundsOfDaysTest {
             CHECK.due("PORTIONS", x.serves(0, 2), n);
             CHECK.due("all are FED", x.day(), n);
         }
+        CHECK.of("==== 2 (1): PORTIONS: six at most, whatever they LIKE");
+        GongHouse six = Check.house("sl0c99;dc9;gl3p0;gl3p0;gl3p0;gl3p0;gl3p0;gl3p0");
+        for (int day = 0; day < 7; day++) {
+            CHECK.due("THERE on DAY " + day, six.there(0), 63);
+            CHECK.due("PORTIONS on DAY " + day, six.serves(0, 2), 6);
+            CHECK.due("nothing is left on DAY " + day, six.all(6), 0);
+            CHECK.due("all are FED on DAY " + day, six.day(), 6);
+            CHECK.due("99 less six times 9, then 0", six.rule(2), day == 0 ? 45 : 0);
+        }
+        CHECK.due("nobody on DAY 7", six.serves(0, 2), 0);
         CHECK.of("==== 2 (2): what was COOKED for nobody is SERVED with its 0 PORTIONS");
         GongHouse y = Check.house("sl1;d;dw9k1;ga2");
         Check.days(y, 2);
